@@ -815,9 +815,11 @@ public final class TaleBans {
 
         private void makeMoves() {
             for (int k = 0; k < land.moves.count; k++) {
-                int p = land.moves.at(k, PERSON);
-                if (land.moves.at(k, SEASON) == season && isOneOf(p, PERSONS)) {
-                    places[p] = land.moves.at(k, HEARTH);
+                if (land.moves.at(k, SEASON) == season) {
+                    int p = land.moves.at(k, PERSON);
+                    if (isOneOf(p, PERSONS)) {
+                        places[p] = land.moves.at(k, HEARTH);
+                    }
                 }
             }
         }
@@ -864,7 +866,7 @@ public final class TaleBans {
         /** The one of these TALES that the LAW has told at a HEARTH. */
         private int chosen(int hearth, int set) {
             int best = NONE;
-            for (int t = 0; t < TALES; t++) {
+            for (int t = 0; t < land.tales.count; t++) {
                 if (isIn(t, set) && (best == NONE || isRather(hearth, t, best))) {
                     best = t;
                 }

@@ -15,6 +15,7 @@ public final class SheetsTest {
         as();
         trace();
         fault();
+        faultOfTheLatestCall();
         many();
         due.finish();
     }
@@ -228,6 +229,39 @@ public final class SheetsTest {
         due.is("calls that name none leave it", x.fault(), 4);
         due.is("fault() too", x.fault(), 4);
         due.plain(x, "one that is taken", x.as(0, 0), 1);
+    }
+
+    private static void behindFault(TaleBans x, String call, long got, long want) {
+        due.plain(x, call, got, want);
+        due.faulted(x, "a fault again", x.put(3, 60, 0), 3);
+    }
+
+    /** Ahead of each call the latest FAULT is 3; a call that names FAULTS and comes to none makes it 0. */
+    private static void faultOfTheLatestCall() {
+        TaleBans x = Due.steppe("s;h30;g40");
+        x.sheet(0, 2, 3);
+        due.faulted(x, "a fault", x.put(3, 60, 0), 3);
+        behindFault(x, "steppe, refused", x.steppe(4, 0, 0, 0), -1);
+        behindFault(x, "steppe, of another lane", x.steppe(3, 3, 0, 0), -2);
+        behindFault(x, "steppe, not taken", x.steppe(3, 2, 0, 0), -100);
+        behindFault(x, "steppe, taken", x.steppe(3, 2, 0, 9), 2);
+        behindFault(x, "plan, refused", x.plan(40, 0, 2, 0, 0), -2);
+        behindFault(x, "plan, beyond season 39", x.plan(39, 0, 2, 0, 3), -2);
+        behindFault(x, "plan, of unknown deeds", x.plan(0, 3, 2, 0, 3), -1);
+        behindFault(x, "plan, taken", x.plan(0, 0, 2, 0, 3), -9);
+        behindFault(x, "sheet, refused", x.sheet(4, 0, 0), -1);
+        behindFault(x, "sheet, too long", x.sheet(1, 0, 61), -2);
+        behindFault(x, "sheet, taken", x.sheet(1, 0, 1), 1);
+        behindFault(x, "put, refused", x.put(4, 0, 0), -1);
+        behindFault(x, "put, taken", x.put(1, 0, 7), 1);
+        behindFault(x, "cell, refused", x.cell(4, 0, 0), Long.MIN_VALUE);
+        behindFault(x, "cell, of no lane", x.cell(1, 0, 3), Long.MIN_VALUE);
+        behindFault(x, "cell, taken", x.cell(1, 0, 0), 7);
+        behindFault(x, "copy, refused", x.copy(1, 0, 4, 0, 1), -1);
+        behindFault(x, "copy, taken", x.copy(1, 0, 1, 0, 1), 1);
+        behindFault(x, "as, refused", x.as(2, 0), -1);
+        behindFault(x, "as, of no kind", x.as(0, 3), -2);
+        behindFault(x, "as, taken", x.as(0, 0), 1);
     }
 
     private static void many() {
