@@ -73,11 +73,9 @@ public final class TaleBans {
     }
 
     public int tale(int deed, int p, int season) {
-        if (!isOneOf(deed, DEEDS) || land.person(p) == null) {
-            return UNKNOWN;
-        }
-        if (!isOneOf(season, SEASONS)) {
-            return OUTSIDE;
+        int refusal = refusal(isOneOf(deed, DEEDS) && land.person(p) != null, isOneOf(season, SEASONS));
+        if (refusal != 0) {
+            return refusal;
         }
         return land.tales.add(p, season, deed, 0);
     }
@@ -91,11 +89,9 @@ public final class TaleBans {
     }
 
     public int move(int p, int hearth, int season) {
-        if (land.person(p) == null || !isOneOf(hearth, HEARTHS)) {
-            return UNKNOWN;
-        }
-        if (!isOneOf(season, SEASONS)) {
-            return OUTSIDE;
+        int refusal = refusal(land.person(p) != null && isOneOf(hearth, HEARTHS), isOneOf(season, SEASONS));
+        if (refusal != 0) {
+            return refusal;
         }
         return land.moves.add(p, season, hearth, 0);
     }
@@ -142,36 +138,27 @@ public final class TaleBans {
     // ---- 2 seasons
 
     public int remembers(int p, int season) {
-        if (land.person(p) == null) {
-            return UNKNOWN;
-        }
-        if (!isOneOf(season, SEASONS)) {
-            return OUTSIDE;
+        int refusal = refusal(land.person(p) != null, isOneOf(season, SEASONS));
+        if (refusal != 0) {
+            return refusal;
         }
         reach(season, land.paid);
         return seasons.talesOf(p);
     }
 
     public int hearth(int p, int season) {
-        if (land.person(p) == null) {
-            return UNKNOWN;
-        }
-        if (!isOneOf(season, SEASONS)) {
-            return OUTSIDE;
+        int refusal = refusal(land.person(p) != null, isOneOf(season, SEASONS));
+        if (refusal != 0) {
+            return refusal;
         }
         reach(season, land.paid);
         return seasons.placeOf(p);
     }
 
     public int told(int hearth, int season) {
-        if (!isOneOf(hearth, HEARTHS)) {
-            return UNKNOWN;
-        }
-        if (!isOneOf(season, SEASONS)) {
-            return OUTSIDE;
-        }
-        if (land.isEmpty()) {
-            return STATE;
+        int refusal = refusal(isOneOf(hearth, HEARTHS), isOneOf(season, SEASONS));
+        if (refusal != 0) {
+            return refusal;
         }
         reach(season, land.paid);
         return seasons.taleAt(hearth);
@@ -196,14 +183,9 @@ public final class TaleBans {
     }
 
     public int free(int deed, int season) {
-        if (!isOneOf(deed, DEEDS)) {
-            return UNKNOWN;
-        }
-        if (!isOneOf(season, SEASONS)) {
-            return OUTSIDE;
-        }
-        if (land.isEmpty()) {
-            return STATE;
+        int refusal = refusal(isOneOf(deed, DEEDS), isOneOf(season, SEASONS));
+        if (refusal != 0) {
+            return refusal;
         }
         seasons.begin(land.paid, land.law);
         for (int s = 0; s < SEASONS; s++) {
@@ -218,14 +200,9 @@ public final class TaleBans {
     // ---- 3 whom to pay, whom to tell, needs
 
     public int fewest(int deed, int season) {
-        if (!isOneOf(deed, DEEDS)) {
-            return UNKNOWN;
-        }
-        if (!isOneOf(season, SEASONS)) {
-            return OUTSIDE;
-        }
-        if (land.isEmpty()) {
-            return STATE;
+        int refusal = refusal(isOneOf(deed, DEEDS), isOneOf(season, SEASONS));
+        if (refusal != 0) {
+            return refusal;
         }
         int best = NONE;
         for (int more = 0; more < 1 << land.persons; more++) {
@@ -323,11 +300,9 @@ public final class TaleBans {
     // ---- 4 who remembered what
 
     public int reading(int p, int t, int season, boolean did) {
-        if (land.person(p) == null || !land.tales.has(t)) {
-            return UNKNOWN;
-        }
-        if (!isOneOf(season, SEASONS)) {
-            return OUTSIDE;
+        int refusal = refusal(land.person(p) != null && land.tales.has(t), isOneOf(season, SEASONS));
+        if (refusal != 0) {
+            return refusal;
         }
         return land.readings.add(p, season, t, did ? 1 : 0);
     }
@@ -379,7 +354,7 @@ public final class TaleBans {
     }
 
     public long odds(int deed, int season, int which) {
-        if (!isOneOf(deed, DEEDS) || !isOneOf(season, SEASONS) || !isOneOf(which, 2) || land.isEmpty()) {
+        if (refusal(isOneOf(deed, DEEDS), isOneOf(season, SEASONS) && isOneOf(which, 2)) != 0) {
             return LOST;
         }
         int sets = 1 << land.persons;
@@ -524,6 +499,20 @@ public final class TaleBans {
 
     private static boolean isIn(int number, int set) {
         return (set >> number & 1) == 1;
+    }
+
+    /**
+     * The first refusal of these, in the order in which the calls tell them; 0: none. Calls that name no
+     * STATE name a PERSON or a TALE, and without a STEPPE there is none.
+     */
+    private int refusal(boolean isKnown, boolean isInside) {
+        if (!isKnown) {
+            return UNKNOWN;
+        }
+        if (!isInside) {
+            return OUTSIDE;
+        }
+        return land.isEmpty() ? STATE : 0;
     }
 
     private Sheet sheetAt(int k) {
