@@ -2,12 +2,20 @@
 final class Due {
     private int answers;
     private int wrong;
+    private int sentences;
+    private String sentence = "";
+
+    /** The document's words that the answers from here on are due by. */
+    void sentence(String words) {
+        sentences++;
+        sentence = "\"" + words + "\": ";
+    }
 
     void is(String call, long got, long want) {
         answers++;
         if (got != want) {
             wrong++;
-            System.out.println(call + " answered " + got + ", due is " + want);
+            System.out.println(sentence + call + " answered " + got + ", due is " + want);
         }
     }
 
@@ -23,7 +31,8 @@ final class Due {
     }
 
     void finish() {
-        System.out.println(answers + " answers, " + wrong + " not as due");
+        String by = sentences == 0 ? "" : " by " + sentences + " sentences";
+        System.out.println(answers + " answers" + by + ", " + wrong + " not as due");
         if (wrong != 0) {
             System.exit(1);
         }

@@ -76,9 +76,13 @@ final class Model {
     private final class History {
         final boolean[][][] heard = new boolean[40][people.size()][tales.size()];
         final int[][] toldAt = new int[40][3];
+        final int[][] places = new int[40][people.size()];
 
         History(TreeSet<Integer> paid, int law) {
             for (int season = 0; season < 40; season++) {
+                for (int p = 0; p < people.size(); p++) {
+                    places[season][p] = placeOf(p, season);
+                }
                 for (Tale tale : tales) {
                     if (tale.season == season) {
                         heard[season][tale.person][tales.indexOf(tale)] = true;
@@ -88,7 +92,7 @@ final class Model {
                     toldAt[season][hearth] = chosen(season, hearth, law);
                 }
                 for (int p = 0; p < people.size(); p++) {
-                    int tale = toldAt[season][placeOf(p, season)];
+                    int tale = toldAt[season][places[season][p]];
                     if (tale >= 0 && !paid.contains(p)) {
                         heard[season][p][tale] = true;
                     }
@@ -113,7 +117,7 @@ final class Model {
             List<Integer> candidates = new ArrayList<>();
             for (int t = 0; t < tales.size(); t++) {
                 int tale = t;
-                if (anyOf(people.size(), p -> placeOf(p, season) == hearth && remembers(p, tale, season))) {
+                if (anyOf(people.size(), p -> places[season][p] == hearth && remembers(p, tale, season))) {
                     candidates.add(t);
                 }
             }
