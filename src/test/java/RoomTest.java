@@ -38,14 +38,14 @@ public final class RoomTest {
     }
 
     private static void fits(String name, Consumer<TaleBans> call) {
-        long before = THREADS.getThreadAllocatedBytes(Thread.currentThread().getId());
+        long before = THREADS.getCurrentThreadAllocatedBytes();
         for (int made = 0; made < CALLS; made += CALLS / 2) {
             TaleBans x = full();
             for (int k = 0; k < CALLS / 2; k++) {
                 call.accept(x);
             }
         }
-        long bytes = THREADS.getThreadAllocatedBytes(Thread.currentThread().getId()) - before;
+        long bytes = THREADS.getCurrentThreadAllocatedBytes() - before;
         due.is(name + " fits, making " + bytes + " bytes in " + CALLS + " calls", bytes <= ROOM ? 1 : 0, 1);
     }
 
